@@ -1089,7 +1089,7 @@ public final class RopeFerry {
             readKey();
             readOr(0, 0);
             if (sort != AT_END) {
-                isFault();
+                meetsFault();
             }
             return fault;
         }
@@ -1125,8 +1125,8 @@ public final class RopeFerry {
             return within(sign, '0', '9') ? DIGITS : sign;
         }
 
-        /** What is looked at is the FAULT, unless one was found ahead of it. */
-        private void isFault() {
+        /** The word or sign looked at is the FAULT, unless one was met ahead of it. */
+        private void meetsFault() {
             if (fault == NO_FAULT) {
                 fault = start;
             }
@@ -1151,7 +1151,7 @@ public final class RopeFerry {
             } else if (spells("fine")) {
                 key = Laws.FINE;
             } else {
-                isFault();
+                meetsFault();
                 return;
             }
             goAhead();
@@ -1234,7 +1234,7 @@ public final class RopeFerry {
                 readOr(open + 1, nots);
                 readClosing();
             } else {
-                isFault();
+                meetsFault();
             }
         }
 
@@ -1242,13 +1242,13 @@ public final class RopeFerry {
             if (isSign(')')) {
                 goAhead();
             } else {
-                isFault();
+                meetsFault();
             }
         }
 
         private void readNumber() {
             if (end - start > MOST_DIGITS) {
-                isFault();
+                meetsFault();
                 return;
             }
             int number = 0;
@@ -1263,7 +1263,7 @@ public final class RopeFerry {
         private void readName() {
             int name = name();
             if (name == NO_NAME) {
-                isFault();
+                meetsFault();
                 return;
             }
             puts(-1 - name);

@@ -191,6 +191,7 @@ public final class ImageTest {
         RopeFerry none = new RopeFerry();
         Due.be("40 no LOADS", none.keep(), 0);
         none.deal(10);
+        none.steps(30);
         Due.be("41 no LOADS", none.back(), 0);
         Due.be("41 no LOADS", none.count(0), 0);
         Due.be("41 the first is numbered 0", none.load(0, 5, 0), 0);

@@ -167,7 +167,8 @@ public final class LoadTest {
         Due.be("5 what it was", x.turns(0, 3), 0);
         Due.row("5 all else stays", tolds(x, 0), 3, 20, 1, 8, 0, 30, 3, 0, 56);
         Due.be("5 the same again", x.turns(0, 3), 3);
-        Due.be("5 to the last", x.turns(0, 5), 3);
+        Due.be("5 to the first", x.turns(0, 0), 3);
+        Due.be("5 to the last", x.turns(0, 5), 0);
         for (int wrong : new int[] {-1, 6, LOW, HIGH}) {
             Due.be("5 BAD load", x.turns(wrong, 0), BAD);
             Due.be("5 BAD kind", x.turns(0, wrong), BAD);

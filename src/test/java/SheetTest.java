@@ -68,6 +68,7 @@ public final class SheetTest {
             Due.row("29 no places", row(x, sort, 0));
             Due.be("29 24 places", x.sheet(sort, sort, 24), 24);
             Due.row("29 all 0", row(x, sort, 24), new int[24]);
+            x.mark(sort, 0, 5);
             x.mark(sort, 3, 5);
             Due.be("29 anew", x.sheet(sort, sort, 5), 5);
             Due.row("29 all 0 again", row(x, sort, 5), new int[5]);

@@ -278,5 +278,13 @@ public final class StepTest {
         Due.be("16 the best two", x.best(0), 6);
         Tape.tell(x, "toll 0");
         Due.be("16 one that is least", x.best(0), 1);
+        RopeFerry y = new RopeFerry();
+        y.load(5, 10, 0);
+        Due.be("16 nobody pays as much as a DOCTOR, with fewer", y.best(0), 0);
+        y.load(0, 10, 0);
+        y.rule(4, 120);
+        Due.be("16 at MARK is not above it", y.best(0), 2);
+        y.rule(4, 119);
+        Due.be("16 above MARK", y.best(0), 0);
     }
 }

@@ -124,6 +124,12 @@ public final class TextTest {
         Due.be("26 pull w is WEIGHT aboard", x.pull(77), 77);
         Tape.tell(x, "pull a");
         Due.be("26 pull a is SLANT", x.pull(77), 30);
+        Tape.tell(x, "pull 0");
+        Due.be("26 a NUMBER of 0 is no NAME", x.pull(77), 0);
+        Tape.tell(x, "   pull 1");
+        Due.be("26 blanks ahead", x.pull(77), 1);
+        Tape.tell(x, " pull(2)");
+        Due.be("26 no blank is needed ahead of a sign", x.pull(77), 2);
         Tape.tell(x, "fine t");
         x.steps(1);
         Due.be("26 fine t is TIME", x.fine(), 11);
@@ -140,7 +146,8 @@ public final class TextTest {
     }
 
     private static void faults() {
-        Object[][] due = {{"", 0}, {"   ", 3}, {"toll", 4}, {"toll  ", 6}, {"tolls 1", 0}, {"tol 1", 0}, {"Toll 1", 0},
+        Object[][] due = {{"", 0}, {"   ", 3}, {"toll", 4}, {"toll  ", 6}, {"tolls 1", 0}, {"tol 1", 0}, {"xoll 1", 0}, {"tolk 1", 0},
+            {" bull w", 1}, {"nine t", 0}, {"Toll 1", 0},
             {"5", 0}, {"(", 0}, {"  tall w", 2}, {"fine5", 4}, {"finet", 0}, {"fine(5)", NONE}, {"fine!5", NONE},
             {"fine 5 5", 7}, {"fine 55t", 7}, {"fine t5", 6}, {"fine tp", 5}, {"fine t p", 7}, {"fine w", 5},
             {"fine s", 5}, {"pull v", 5}, {"pull t", 5}, {"toll a", 5}, {"toll p", 5}, {"fine x", 5}, {"fine fine", 5},

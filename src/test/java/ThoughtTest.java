@@ -75,6 +75,19 @@ public final class ThoughtTest {
         Due.be("18 WAITS", x.slant(1, 1), 11);
         x.rule(4, 1);
         Due.be("18 stopped: of several the least", x.slant(1, 0), 0);
+        x.rule(0, 1);
+        Tape.tell(x, "pull (a<60)*9999");
+        Due.be("18 60 too", x.slant(1, 0), 60);
+        Due.be("18 with it nobody waits", x.slant(1, 1), 0);
+        Tape.tell(x, "pull (a<61)*9999");
+        Due.be("18 no more than 60", x.slant(1, 0), 0);
+        x.sheet(0, 0, 2);
+        x.mark(0, 1, 60);
+        Due.be("22 no more than 60", x.slanted(0, 0), 0);
+        Due.be("22 10 minutes, not 60", x.slanted(0, 1), 50);
+        Tape.tell(x, "pull (a<60)*9999");
+        Due.be("22 60 too", x.slanted(0, 0), 60);
+        Due.be("22 no differences", x.slanted(0, 1), 0);
     }
 
     private static void patience() {
@@ -95,7 +108,7 @@ public final class ThoughtTest {
                 Due.be("19 TOLLS for " + n, ferry(seed).patience(n, 1), most);
             }
         }
-        // Two of ten minutes' WAITS pay twice as much as one: what is worth waiting for.
+        // A ferryman who waits waits on, for nobody comes meanwhile: no LEAST brings more than 0 does.
         RopeFerry x = new RopeFerry();
         x.load(0, 10, 0);
         x.set(0, 3, 50);
@@ -172,14 +185,17 @@ public final class ThoughtTest {
         atTheHundredth();
     }
 
-    /** Waits of 5 minutes, till the toll of time lets the boat go in the hundredth step. */
+    /** A LOAD too heavy till the STREAM falls, with some of the seeds just in the hundredth STEP. */
     private static void atTheHundredth() {
-        for (int seed = 1; seed < 400; seed++) {
+        int hundredth = 0;
+        int later = 0;
+        for (int seed = 1; seed < 1500; seed++) {
             RopeFerry x = new RopeFerry();
             x.seed(seed);
             x.load(0, 99, 0);
-            x.rule(3, 99);
-            x.rule(4, 500);
+            x.rule(0, seed & 1);
+            x.rule(3, 45);
+            x.rule(4, 297);
             int thought = x.allOver();
             int n = 0;
             while (n <= 101 && x.told(0, 4) == 0) {
@@ -187,7 +203,10 @@ public final class ThoughtTest {
                 n++;
             }
             Due.be("21 as late as it comes", thought, n <= 100 ? n : NONE);
+            hundredth += n == 100 ? 1 : 0;
+            later += n == 101 ? 1 : 0;
         }
+        Due.holds("21 the hundredth and the one behind it came", hundredth > 0 && later > 0);
     }
 
     private static boolean allHaveBeen(RopeFerry x) {
@@ -304,6 +323,15 @@ public final class ThoughtTest {
         x.best(0);
         x.loading();
         Due.row("17 to 23: only thought", all(x), ahead);
+        int thought = x.behind(9, 0);
+        int count = x.loading();
+        x.left(9, 0);
+        Due.be("20 who is left is left in this thought alone", x.behind(9, 0), thought);
+        Due.be("20 who is left is left in this thought alone", x.loading(), count);
+        int tolls = x.book(1);
+        x.steps(9);
+        Due.be("17 as thought", x.book(1), thought);
+        Due.holds("17 something was paid", thought > tolls);
     }
 
     private static int[] all(RopeFerry x) {
