@@ -826,8 +826,11 @@ public final class RopeFerry {
 
         int pullAt(int stream, int aboard) {
             int text = counts[Laws.PULL];
-            int pull = text < 0 ? stream * (aboard + 20) / 10 : laws.gives(text, stream, aboard, rules[SLANT]);
-            return held(pull, 0, 9999);
+            if (text < 0) {
+                // Nothing holds it here: the document's bounds are those of what a TEXT gives.
+                return stream * (aboard + 20) / 10;
+            }
+            return held(laws.gives(text, stream, aboard, rules[SLANT]), 0, 9999);
         }
 
         int effect() {

@@ -242,7 +242,12 @@ public final class LoadTest {
         Due.be("9 the most", x.pull(999), 3974);
         x.rule(3, 99);
         Due.be("9 all loads at their heaviest", x.pull(990), 9999);
-        Due.be("9 held, without a TEXT too", x.pull(999), 9999);
+        for (int weight = 991; weight <= 999; weight++) {
+            Due.be("9 nothing holds it without a TEXT", x.pull(weight), 99 * (weight + 20) / 10);
+        }
+        Due.be("9 the very most", x.pull(999), 10088);
+        x.rule(3, 98);
+        Due.be("9 below 9999 by itself", x.pull(999), 9986);
         for (int wrong : new int[] {-1, 1000, LOW, HIGH}) {
             Due.be("9 BAD", x.pull(wrong), BAD);
         }
@@ -254,6 +259,24 @@ public final class LoadTest {
         Tape.tell(x, "pull w-s");
         Due.be("9 held at 0", x.pull(4), 0);
         Due.be("9 above 0", x.pull(6), 1);
+        pullHeldByATextAlone();
+    }
+
+    private static void pullHeldByATextAlone() {
+        RopeFerry x = new RopeFerry();
+        x.rule(3, 99);
+        x.rule(4, 9999);
+        x.keep();
+        Tape.tell(x, "pull s*(w+20)/10");
+        Due.be("9 the same by a TEXT", x.pull(990), 9999);
+        Due.be("9 the same by a TEXT, held", x.pull(991), 9999);
+        Due.be("9 the same by a TEXT, held", x.pull(999), 9999);
+        x.back();
+        Due.be("9 without that TEXT again", x.pull(991), 10008);
+        Due.be("9 without that TEXT again", x.pull(999), 10088);
+        Tape.tell(x, "toll 1");
+        Tape.tell(x, "fine 1");
+        Due.be("9 TEXTS of other KEYS hold nothing", x.pull(999), 10088);
     }
 
     private static void loading() {

@@ -244,8 +244,10 @@ public final class Model {
 
         int pull(int weight) {
             String law = law("pull");
-            int gives = law == null ? stream * (weight + 20) / 10 : Text.gives(law, "swa", stream, weight, slant);
-            return Math.min(9999, Math.max(0, gives));
+            if (law == null) {
+                return stream * (weight + 20) / 10;
+            }
+            return Math.min(9999, Math.max(0, Text.gives(law, "swa", stream, weight, slant)));
         }
 
         int effect() {

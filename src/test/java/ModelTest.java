@@ -71,6 +71,9 @@ public final class ModelTest {
             tell(random.nextInt(4) == 0 ? anyText() : goodText());
         } else if (which == 6) {
             call("mark", random.nextInt(4), random.nextInt(24), NONE);
+        } else if (random.nextInt(4) == 0) {
+            call("rule", 3, 99);
+            call("pull", 980 + random.nextInt(21));
         } else {
             toldSteps();
         }
