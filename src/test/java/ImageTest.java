@@ -176,11 +176,19 @@ public final class ImageTest {
         int[] kept = all(x);
         Due.be("40 how many LOADS", x.keep(), 4);
         Due.row("40 all stays", all(x), kept);
-        for (int i = 0; i < 3; i++) {
+        for (int i = 0; i < 2; i++) {
             change(x);
             Due.be("41 how many LOADS", x.back(), 4);
             Due.row("41 all is as THE IMAGE", all(x), kept);
         }
+        theLastOneKept();
+        noLoadsKept();
+    }
+
+    private static void theLastOneKept() {
+        RopeFerry x = new RopeFerry();
+        x.deal(4);
+        x.keep();
         change(x);
         int[] later = all(x);
         Due.be("40 in its stead", x.keep(), 6);
@@ -188,6 +196,9 @@ public final class ImageTest {
         x.steps(3);
         Due.be("41 the last one kept", x.back(), 6);
         Due.row("41 the last one kept", all(x), later);
+    }
+
+    private static void noLoadsKept() {
         RopeFerry none = new RopeFerry();
         Due.be("40 no LOADS", none.keep(), 0);
         none.deal(10);

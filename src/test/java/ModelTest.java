@@ -22,10 +22,15 @@ public final class ModelTest {
     private static final String[] PIECES = {"w", "s", "v", "a", "t", "p", "0", "1", "7", "40", "300", "9999", "!", "!",
         "(", "(", ")", "+", "-", "*", "/", "<", "=", ">", "&", "|", " ", "12345", "%", "toll"};
 
+    /** What an object answers behind so many calls is free; toldSteps asks for so many more at the most. */
+    private static final int MOST_CALLS = 512;
+    private static final int MOST_AT_ONCE = 60;
+
     private final Random random;
     private final RopeFerry ferry = new RopeFerry();
     private final Model model = new Model();
     private final StringBuilder told = new StringBuilder();
+    private int calls = 0;
 
     private ModelTest(long seed) {
         random = new Random(seed);
@@ -46,7 +51,7 @@ public final class ModelTest {
         for (Object[] call : CALLS) {
             weights += (Integer) call[1];
         }
-        for (int calls = 0; calls < 400; calls++) {
+        while (calls < MOST_CALLS - MOST_AT_ONCE) {
             int drawn = random.nextInt(weights + 8);
             if (drawn >= weights) {
                 special(drawn - weights);
@@ -84,6 +89,7 @@ public final class ModelTest {
         call("keep");
         int n = 1 + random.nextInt(12);
         for (int i = 1; i <= n; i++) {
+            calls += 2;
             call("tell", ferry.behind(i, 1));
             call("tell", ferry.behind(i, 0) + (random.nextInt(12) == 0 ? 1 : 0));
         }
@@ -110,6 +116,7 @@ public final class ModelTest {
         }
         Method first = RopeFerry.class.getMethod(name, types);
         Method second = Model.class.getMethod(name, types);
+        calls++;
         told.append(name).append(java.util.Arrays.toString(args)).append(' ');
         int got = (Integer) first.invoke(ferry, values);
         int due = (Integer) second.invoke(model, values);

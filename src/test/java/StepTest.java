@@ -22,10 +22,6 @@ public final class StepTest {
         Due.end();
     }
 
-    private static int drawn(int z) {
-        return (z * 1103515245 + 12345) >>> 8;
-    }
-
     private static void badSteps() {
         RopeFerry x = new RopeFerry();
         for (int wrong : new int[] {0, 101, -1, LOW, HIGH}) {
@@ -147,23 +143,18 @@ public final class StepTest {
     }
 
     private static void theStreamChanges() {
-        RopeFerry x = new RopeFerry();
-        int z = 1;
-        int stream = 40;
-        for (int i = 0; i < 300; i++) {
-            if (i == 100) {
-                x.rule(3, 2);
-                stream = 2;
+        for (int first : new int[] {40, 2, 97}) {
+            RopeFerry x = new RopeFerry();
+            x.rule(3, first);
+            int z = 1;
+            int stream = first;
+            for (int i = 0; i < 160; i++) {
+                x.steps(1);
+                stream = Math.max(0, Math.min(99, stream + Ferries.drawn(z) % 7 - 3));
+                z = Ferries.next(z);
+                Due.be("13 STREAM", x.boat(3), stream);
+                Due.be("13 one draw a STEP", x.count(7), z);
             }
-            if (i == 200) {
-                x.rule(3, 97);
-                stream = 97;
-            }
-            x.steps(1);
-            stream = Math.max(0, Math.min(99, stream + drawn(z) % 7 - 3));
-            z = z * 1103515245 + 12345;
-            Due.be("13 STREAM", x.boat(3), stream);
-            Due.be("13 one draw a STEP", x.count(7), z);
         }
     }
 

@@ -173,40 +173,12 @@ public final class ThoughtTest {
         x.steps(2);
         Due.be("21 all have been", x.allOver(), 0);
         for (int seed = 1; seed <= 40; seed++) {
-            RopeFerry y = ferry(seed);
-            int thought = y.allOver();
             int due = NONE;
             for (int n = 0; n <= 100 && due == NONE; n++) {
-                due = allHaveBeen(y) ? n : NONE;
-                y.steps(1);
+                due = allHaveBeen(Ferries.gone(ferry(seed), n)) ? n : NONE;
             }
-            Due.be("21 as it comes", thought, due);
+            Due.be("21 as it comes", ferry(seed).allOver(), due);
         }
-        atTheHundredth();
-    }
-
-    /** A LOAD too heavy till the STREAM falls, with some of the seeds just in the hundredth STEP. */
-    private static void atTheHundredth() {
-        int hundredth = 0;
-        int later = 0;
-        for (int seed = 1; seed < 1500; seed++) {
-            RopeFerry x = new RopeFerry();
-            x.seed(seed);
-            x.load(0, 99, 0);
-            x.rule(0, seed & 1);
-            x.rule(3, 45);
-            x.rule(4, 297);
-            int thought = x.allOver();
-            int n = 0;
-            while (n <= 101 && x.told(0, 4) == 0) {
-                x.steps(1);
-                n++;
-            }
-            Due.be("21 as late as it comes", thought, n <= 100 ? n : NONE);
-            hundredth += n == 100 ? 1 : 0;
-            later += n == 101 ? 1 : 0;
-        }
-        Due.holds("21 the hundredth and the one behind it came", hundredth > 0 && later > 0);
     }
 
     private static boolean allHaveBeen(RopeFerry x) {
@@ -222,9 +194,10 @@ public final class ThoughtTest {
         for (int seed = 1; seed <= 8; seed++) {
             RopeFerry x = ferry(seed);
             int places = 3 * seed;
+            int now = x.book(0);
             x.sheet(2, seed % 2, places);
             for (int k = 0; k < places; k++) {
-                x.mark(2, k, x.book(0) + k * (9 + seed * 3));
+                x.mark(2, k, now + k * (9 + seed * 3));
             }
             if (seed % 2 == 1) {
                 x.mark(2, 1, NONE);
@@ -237,7 +210,7 @@ public final class ThoughtTest {
                 int sum = 0;
                 for (int k = 0; k < places; k++) {
                     boolean isNumber = seed % 2 == 0 || k != 1;
-                    int place = x.behind(0, 1) + k * (9 + seed * 3);
+                    int place = now + k * (9 + seed * 3);
                     sum += isNumber ? Math.abs(y.book(0) - place) : 0;
                     y.steps(1);
                 }
